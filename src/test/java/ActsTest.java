@@ -130,10 +130,35 @@ public final class ActsTest {
         d.lies("0:2x1,0x1,2x1,0x1,2x1;1:1x1;2:3x1");
         d.is("what is no part of it may lie anywhere", d.x.move(0, 1, 1), 2);
         d.is("a later layer is apart", d.x.move(0, 1, 1), -5);
+        moveFull();
         d.is("fumes", d.x.fumes(1, 2), 2);
         d.is("closed comes first", d.x.move(0, 1, 99), -2);
         d.is("closed comes first", d.x.move(1, 0, 99), -2);
         d.is("none comes first", d.x.move(1, 1, 1), -1);
+    }
+
+    /** What comes to lie on its like is no LAYER more; a BIN may be filled to its CAP. */
+    static void moveFull() {
+        Due d = Due.landed("move full", "b0c20;b1c8");
+        for (int i = 0; i < 6; i++) {
+            d.is("load", d.x.load(i % 2, 1, 0), i + 1);
+        }
+        d.is("load", d.x.load(0, 3, 1), 3);
+        d.is("no room", d.x.move(0, 1, 6), -4);
+        d.is("undo", d.x.undo(), 6);
+        d.is("load", d.x.load(0, 2, 1), 2);
+        d.is("six layers, full", d.x.move(0, 1, 6), 8);
+        d.lies("1:0x3,1x1,0x1,1x1,0x1,1x1");
+        d.is("undo", d.x.undo(), 7);
+        d.is("turn", d.x.turn(0), 6);
+        d.is("seven layers", d.x.move(0, 1, 6), -6);
+        d.is("turn", d.x.turn(0), 6);
+        d.is("draw", d.x.draw(1, 1), 0);
+        d.is("load", d.x.load(1, 1, 1), 2);
+        d.is("turn", d.x.turn(1), 2);
+        d.is("none but the lowest joins", d.x.move(0, 1, 6), -6);
+        d.is("six of them", d.x.move(0, 1, 5), 7);
+        d.lies("0:1x1;1:1x1,0x2,1x1,0x1,1x1,0x1");
     }
 
     static void turns() {
@@ -150,6 +175,10 @@ public final class ActsTest {
         d.lies("0:0x3,0x2,1x1");
         d.is("since", d.x.layer(0, 0, 2), 2);
         d.is("since", d.x.layer(0, 1, 2), 0);
+        d.is("tons", d.x.grade(0, 2), 5);
+        d.is("value", d.x.value(0), 500 + 90 - 5);
+        d.is("turn", d.x.turn(0), 3);
+        d.is("turn", d.x.turn(0), 3);
         d.is("load", d.x.load(0, 4, 0), 10);
         d.is("turn", d.x.turn(0), 4);
         d.lies("0:0x4,1x1,0x2,0x3");

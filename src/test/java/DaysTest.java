@@ -5,6 +5,7 @@ public final class DaysTest {
         falls();
         old();
         cures();
+        whatIsGone();
         Due.end();
     }
 
@@ -84,6 +85,39 @@ public final class DaysTest {
         d.row(2, 1, 0, 0, 0, 0, 3);
     }
 
+    /** A LAYER that was drawn counts nowhere. */
+    static void whatIsGone() {
+        Due d = Due.landed("what is gone", "g0w10k5;g1w20k2;b0c50;b5c50");
+        for (int b = 0; b < 6; b += 5) {
+            d.is("load", d.x.load(0, 1, b), 1);
+            d.is("load", d.x.load(1, 1, b), 2);
+            d.is("load", d.x.load(0, 1, b), 3);
+            d.is("load", d.x.load(1, 1, b), 4);
+            d.is("load", d.x.load(0, 1, b), 5);
+            d.is("load", d.x.load(1, 5, b), 10);
+            d.is("draw", d.x.draw(b, 5), 50);
+        }
+        d.is("dear", d.x.dear(), 1);
+        d.row(0, 200, 0, 0, 0, 0);
+        d.is("value", d.x.value(0), 100);
+        d.is("reaches", d.x.reaches(1, 6), -2);
+        d.is("reaches", d.x.reaches(0, 1), -2);
+        d.is("then", d.x.then(3), 190);
+        d.is("bottom", d.x.bottom(0), 1);
+        d.row(5, 1);
+        d.text("1:6");
+        d.is("serves", d.x.serves(), 0);
+        d.is("cures", d.x.cures(1, 3), 0);
+        d.row(5);
+        d.is("empties", d.x.empties(0), 0);
+        d.row(5);
+        d.is("days", d.x.days(3), 3);
+        d.is("old", d.x.old(), 10);
+        d.row(5, 0, 0, 0, 0, 5, 33);
+        d.is("then", d.x.then(99), 0);
+        d.row(190, 2);
+    }
+
     static void cures() {
         Due d = Due.landed("cures", LINES);
         d.is("nothing lies", d.x.cures(1, 9), -2);
@@ -111,5 +145,10 @@ public final class DaysTest {
         d.is("days", d.x.days(30), 30);
         d.is("for 20 days", d.x.cures(20, 0), 0);
         d.row(20);
+        d = Due.landed("cures, by 1", "g0w1k0;b5c9");
+        d.is("load", d.x.load(0, 1, 5), 1);
+        d.is("cures", d.x.cures(1, 1), 5);
+        d.row(1);
+        d.is("too short", d.x.cures(1, 2), -2);
     }
 }

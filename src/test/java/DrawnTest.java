@@ -100,6 +100,9 @@ public final class DrawnTest {
         d.text("3:5,3:2");
         d.is("not so much", d.x.serves(), 1);
         d.row(3);
+        d.text("0:5,2:5,0:5");
+        d.is("what was tried in vain lies there still", d.x.serves(), 3);
+        d.row(1, 1, 0);
         d.is("nothing drawn", d.x.count(1), 26);
         d.is("no orders", d.x.serves(), 0);
         d.row();

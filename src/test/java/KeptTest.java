@@ -57,6 +57,8 @@ public final class KeptTest {
         d.is("price", d.x.price(0, 1), 100);
         d.is("undo", d.x.undo(), 4);
         d.is("worth", d.x.grade(0, 0), 100);
+        d.is("tons", d.x.grade(0, 2), 8);
+        d.is("mixed", d.x.mixed(0), 20);
         d.text("0:4,1:2");
         d.is("sells", d.x.sells(), 2);
         d.is("undo", d.x.undo(), 4);
@@ -165,6 +167,8 @@ public final class KeptTest {
         for (int what = 0; what < counts.length; what++) {
             d.is("count(" + what + ")", d.x.count(what), counts[what]);
         }
+        d.is("fumes", d.x.fumes(0, 9), 12);
+        d.is("count(3)", d.x.count(3), 35);
         d.is("none", d.x.count(9), -1);
         d.is("none", d.x.count(-1), -1);
     }

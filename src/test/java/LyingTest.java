@@ -136,6 +136,21 @@ public final class LyingTest {
         d.is("none", d.x.few(), 0);
         d.row(0);
         d.is("nothing lies", d.x.count(1), 1);
+        d = Due.landed("few, least bits", "b0c9;b1c11;b2c10;b3c12");
+        d.text("0:7,0:2,0:8,0:4");
+        d.is("not those of the first row", d.x.few(), 2);
+        d.row(6);
+        d = Due.landed("few, layers", "b0c20;b1c3");
+        for (int i = 0; i < 6; i++) {
+            d.is("load", d.x.load(i, 1, 0), i + 1);
+        }
+        d.text("5:1,5:1");
+        d.is("on top", d.x.few(), 1);
+        d.row(1);
+        d.is("days", d.x.days(1), 1);
+        d.text("5:1,5:1");
+        d.is("of another day", d.x.few(), 1);
+        d.row(2);
     }
 
     static void room() {

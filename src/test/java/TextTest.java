@@ -67,6 +67,12 @@ public final class TextTest {
         d.is("apart", d.x.pair(0, 3), -2);
         d.is("apart", d.x.pair(3, 0), -2);
         d.is("text", d.x.count(8), 0);
+        d = Due.landed("apart", "x02;x12;x03");
+        int[][] apart = {{0, 2}, {0, 3}, {1, 2}, {2, 0}, {2, 1}, {3, 0}};
+        for (int[] two : apart) {
+            d.is("apart", d.x.pair(two[0], two[1]), -2);
+        }
+        d.is("not apart", d.x.pair(0, 1), 0);
         Due.landed("every line", "g0w1k1;g1w1k1;g2w1k1;g3w1k1;g4w1k1;g5w1k1;b0c1;b1c1;b2c1;b3c1;b4c1;b5c1;"
             + "x01;x02;x03;x04;x05;x12;x13;x14;x15;x23;x24;x25;x34;x35;x45");
     }
@@ -105,6 +111,14 @@ public final class TextTest {
         d.is("undo", d.x.undo(), -2);
         d.is("back", d.x.back(), -2);
         d.is("price", d.x.price(1, 70), 7);
+        d.is("tons", d.x.grade(0, 2), 0);
+        d.is("mixed", d.x.mixed(0), 0);
+        d.text("b3c9;g1w7k8;l015;x02");
+        d.is("told in another text", d.x.land(), 4);
+        d.text("b3c9;g1w7k8;x01;l025");
+        d.is("told in another text", d.x.land(), 4);
+        d.is("apart", d.x.pair(0, 1), -2);
+        d.is("loss", d.x.pair(0, 2), 5);
         d.text("");
         d.is("none", d.x.land(), 0);
         d.is("worth", d.x.grade(1, 0), 0);
@@ -159,6 +173,10 @@ public final class TextTest {
         landFault("l011;x10", 7);
         landFault("x01;l015", 6);
         landFault("x01;x01", 6);
+        landFault("x01;x02;x10", 10);
+        landFault("x01;x02;x01", 10);
+        landFault("x01;x21;x10", 10);
+        landFault("x01;l025;x03;x20", 15);
         landFault("x", 1);
         landFault("x0", 2);
         landFault("x44", 2);

@@ -133,5 +133,9 @@ public final class WorthTest {
         d.is("days", d.x.days(2), 2);
         d.is("older", d.x.dear(), 1);
         d.row(18, 20, 0, 0, 0, 0);
+        d = Due.landed("dear, worth 1", "g3w1k9;b0c9");
+        d.is("load", d.x.load(3, 1, 0), 1);
+        d.is("dear", d.x.dear(), 3);
+        d.row(0, 0, 0, 1, 0, 0);
     }
 }
