@@ -37,8 +37,8 @@ public final class GrainBins {
     private final Past past = new Past(rules);
     private final Row numbers = new Row();
     private final Orders orders = new Orders();
-    private final Laying laying = new Laying(rules);
-    private final Drawing drawing = new Drawing();
+    private final Laying laying = new Laying(rules, orders);
+    private final Drawing drawing = new Drawing(now, orders);
     private final Script script = new Script();
 
     public GrainBins() {
@@ -233,7 +233,7 @@ public final class GrainBins {
         if (count < 0) {
             return count;
         }
-        int served = drawing.serve(now, orders);
+        int served = drawing.serve();
         past.add(now);
         int ahead = now.valueOfAll(now.day);
         int drawn = 0;
@@ -373,7 +373,7 @@ public final class GrainBins {
             return count;
         }
         orders.comeOn(now.day);
-        int growth = laying.leastGrowth(now, orders, NONE);
+        int growth = laying.leastGrowth(now, NONE);
         if (growth < 0) {
             return NOTHING;
         }
@@ -391,7 +391,7 @@ public final class GrainBins {
             return count;
         }
         orders.comeOn(now.day);
-        int bits = laying.fewestBins(now, orders);
+        int bits = laying.fewestBins(now);
         if (bits < 0) {
             return NOTHING;
         }
@@ -479,7 +479,7 @@ public final class GrainBins {
         if (count < 0) {
             return count;
         }
-        int served = drawing.serve(now, orders);
+        int served = drawing.serve();
         numbers.start();
         for (int i = 0; i < served; i++) {
             numbers.add(drawing.bestWay[i]);
@@ -492,7 +492,7 @@ public final class GrainBins {
         if (count < 0) {
             return count;
         }
-        int picked = drawing.pick(now, orders);
+        int picked = drawing.pick();
         numbers.start();
         for (int i = 0; i < count; i++) {
             numbers.add(drawing.bestWay[i]);
@@ -508,7 +508,7 @@ public final class GrainBins {
             return CLOSED;
         }
         orders.takeLayers(now, bin);
-        int growth = laying.leastGrowth(now, orders, bin);
+        int growth = laying.leastGrowth(now, bin);
         if (growth < 0) {
             return NO_WAY;
         }
@@ -1486,20 +1486,21 @@ public final class GrainBins {
     static final class Laying {
         private static final int NO_GROWTH_YET = 1000000000;
         private final Store thought;
+        private final Orders loads;
         private final int[] way = new int[Orders.MOST];
         final int[] bestWay = new int[Orders.MOST];
-        private Orders loads;
         private int skip;
         private int least;
         private int bits;
 
-        Laying(Rules rules) {
+        Laying(Rules rules, Orders loads) {
             thought = new Store(rules);
+            this.loads = loads;
         }
 
         /** The least by which MIXED must grow, or NONE; a BIN to be left alone, or NONE. */
-        int leastGrowth(Store now, Orders what, int leftAlone) {
-            start(now, what, leftAlone);
+        int leastGrowth(Store now, int leftAlone) {
+            start(now, leftAlone);
             least = NO_GROWTH_YET;
             if (mightLie()) {
                 layCheapest(this, 0, 0);
@@ -1508,8 +1509,8 @@ public final class GrainBins {
         }
 
         /** The fewest BINS, of as few the least bits, or NONE. */
-        int fewestBins(Store now, Orders what) {
-            start(now, what, NONE);
+        int fewestBins(Store now) {
+            start(now, NONE);
             bits = NONE;
             if (mightLie()) {
                 layFewest(this, 0, 0);
@@ -1517,9 +1518,8 @@ public final class GrainBins {
             return bits;
         }
 
-        private void start(Store now, Orders what, int leftAlone) {
+        private void start(Store now, int leftAlone) {
             thought.copy(now);
-            loads = what;
             skip = leftAlone;
         }
 
@@ -1598,38 +1598,33 @@ public final class GrainBins {
         }
     }
 
-    /** Ways to draw ORDERS from BINS, tried in thought, the first rows first. */
+    /** Ways to draw ORDERS from BINS, tried in thought, the first rows first; behind each call nothing is gone. */
     static final class Drawing {
         private static final int LEFT_OUT = BINS;
+        private final Store store;
+        private final Orders orders;
         private final int[] gone = new int[BINS];
         private final int[] way = new int[Orders.MOST];
         final int[] bestWay = new int[Orders.MOST];
-        private Store store;
-        private Orders orders;
         private int most;
 
+        Drawing(Store store, Orders orders) {
+            this.store = store;
+            this.orders = orders;
+        }
+
         /** How many ORDERS can be drawn, from the first one on. */
-        int serve(Store now, Orders what) {
-            start(now, what);
+        int serve() {
             most = 0;
             serveFrom(this, 0);
             return most;
         }
 
         /** How many ORDERS can be drawn, if others are left out. */
-        int pick(Store now, Orders what) {
-            start(now, what);
+        int pick() {
             most = NONE;
             pickFrom(this, 0, 0);
             return most;
-        }
-
-        private void start(Store now, Orders what) {
-            store = now;
-            orders = what;
-            for (int bin = 0; bin < BINS; bin++) {
-                gone[bin] = 0;
-            }
         }
 
         private boolean canDraw(int bin, int i) {
