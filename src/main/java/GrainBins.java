@@ -537,14 +537,14 @@ public final class GrainBins {
             return NONE;
         }
         // VALUE never grows by days alone: so the days on which it is not below v come first
-        int kept = 0;
+        int held = 0;
         for (int step = 512; step > 0; step /= 2) {
-            int last = kept + step - 1;
+            int last = held + step - 1;
             if (last <= MOST_AHEAD && now.valueThen(bin, now.day + last) >= v) {
-                kept += step;
+                held += step;
             }
         }
-        return kept <= MOST_AHEAD ? kept : NOTHING;
+        return held <= MOST_AHEAD ? held : NOTHING;
     }
 
     public int old() {
