@@ -65,7 +65,6 @@ public final class GrainBins {
         now.clear();
         past.clear();
         somethingKept = false;
-        numbers.start();
         return lines;
     }
 

@@ -188,5 +188,19 @@ public final class KeptTest {
         d.is("days", d.x.days(1), 1);
         d.is("undo", d.x.undo(), 1);
         d.row(0);
+        d.is("fumes", d.x.fumes(0, 2), 2);
+        d.is("price", d.x.price(0, 7), 100);
+        d.is("keeps", d.x.keeps(), 0);
+        d.is("back", d.x.back(), 0);
+        d.text("b0c9;z");
+        d.is("land, refused", d.x.land(), -26);
+        d.row(0);
+        d.text("b0c9");
+        d.is("land", d.x.land(), 1);
+        d.row(0);
+        d.is("land of nothing", d.x.land(), 0);
+        d.row(0);
+        d.is("value tells of it", d.x.value(0), 0);
+        d.row(0, 0, 0);
     }
 }

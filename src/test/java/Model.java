@@ -97,7 +97,6 @@ final class Model {
         now = m.now;
         kept = null;
         past.clear();
-        row = new ArrayList<>();
         return n;
     }
 

@@ -100,7 +100,7 @@ public final class TextTest {
         d.is("empty", d.x.count(4), 63);
         d.is("acts", d.x.count(5), 0);
         d.is("drawn", d.x.count(6), 0);
-        d.row();
+        d.row(5, 0, 0, 0, 0, 0);
         d.is("worth", d.x.grade(0, 0), 0);
         d.is("keep", d.x.grade(0, 1), 99);
         d.is("keep", d.x.grade(1, 1), 8);
